@@ -848,14 +848,16 @@ public final class LostLetters {
             Row row = rows[j];
             int low = Math.max(0, row.size - (n - depth - 1));
             int high = Math.min(row.size, depth + 1);
+            int from = cell(depth, j, 0);
+            int to = cell(depth + 1, j, 0);
             for (int k = low; k <= high; k++) {
-                int often = k <= depth ? embedded[cell(depth, j, k)] : 0;
+                int often = k <= depth ? embedded[from + k] : 0;
                 if (k > 0 && row.letter(k - 1) == l) {
-                    often += embedded[cell(depth, j, k - 1)];
+                    often += embedded[from + k - 1];
                 }
-                embedded[cell(depth + 1, j, k)] = often;
+                embedded[to + k] = often;
             }
-            return embedded[cell(depth + 1, j, low)] > 0;
+            return embedded[to + low] > 0;
         }
 
         /** Words come in order, so only a greater product takes the place of the best. */

@@ -109,7 +109,8 @@ public final class ModelTest {
         int kind = from(0, 2);
         int i = from(0, Math.max(0, s >= 0 && s < 12 ? m.register(s).length() : 0));
         int l = from(0, q - 1);
-        due("edit(" + s + ", " + t + ", " + kind + ", " + i + ", " + l + ")", x.edit(s, t, kind, i, l), m.edit(s, t, kind, i, l));
+        due("edit(" + s + ", " + t + ", " + kind + ", " + i + ", " + l + ")",
+                x.edit(s, t, kind, i, l), m.edit(s, t, kind, i, l));
     }
 
     private void code() {
@@ -120,7 +121,8 @@ public final class ModelTest {
         int modulus = random.nextBoolean() ? from(1, 64) : n + 1;
         int a = from(0, Math.max(0, Math.min(modulus - 1, 10)));
         int b = from(0, q - 1);
-        due("code(" + n + ", " + modulus + ", " + a + ", " + b + ")", x.code(n, modulus, a, b), m.code(n, modulus, a, b));
+        due("code(" + n + ", " + modulus + ", " + a + ", " + b + ")",
+                x.code(n, modulus, a, b), m.code(n, modulus, a, b));
     }
 
     private void listed(int s) {
@@ -149,7 +151,8 @@ public final class ModelTest {
 
     private void line() {
         int losses = from(0, 25), gains = from(0, 25), turns = from(0, 20);
-        due("line(" + losses + ", " + gains + ", " + turns + ")", x.line(losses, gains, turns), m.line(losses, gains, turns));
+        due("line(" + losses + ", " + gains + ", " + turns + ")",
+                x.line(losses, gains, turns), m.line(losses, gains, turns));
         if (random.nextBoolean()) {
             long v = random.nextLong();
             due("seed(" + v + ")", x.seed(v), m.seed(v));

@@ -414,7 +414,7 @@ public final class PromiseTest {
         oneLossOrGainIsMended();
     }
 
-    /** What these codes are for: with m from n + 1 on (from n on for three or four letters) one loss or gain is mended. */
+    /** What these codes are for: with m n + 1 (n for three or four letters) any one loss or gain is mended. */
     private static void oneLossOrGainIsMended() {
         for (int q = 2; q <= 4; q++) {
             LostLetters x = with(q);
@@ -507,7 +507,8 @@ public final class PromiseTest {
     }
 
     private static void commons() {
-        LostLetters x = with(3, "", "012", "210", "0011", "1100", ZEROS, "010101010101010101010101", "101010101010101010101010");
+        LostLetters x = with(3, "", "012", "210", "0011", "1100", ZEROS,
+                "010101010101010101010101", "101010101010101010101010");
         due("14 empty", x.commons(0, 0), 1);
         due("14 with the empty", x.commons(0, 1), 1);
         due("14 three of one letter", x.commons(1, 2), 3);
@@ -668,17 +669,24 @@ public final class PromiseTest {
 
     /** Nine letters 1 hold the trace 84 times, and 84 to the eighth is above the bound: the first such word is best. */
     private static void productsAboveTheBound() {
-        LostLetters x = with(2, "111111", "11111");
-        for (int k = 0; k < 5; k++) {
+        String[] five = {"111111", "111111", "111111", "111111", "111111"};
+        bestOfTwelve("five are below the bound", five, "111111111111");
+        String[] eight = {"111111", "111111", "111111", "111111", "111111", "111111", "111111", "111111"};
+        bestOfTwelve("eight are above it", eight, "000111111111");
+        String[] below = {"1111", "11110", "11110", "000", "11010", "111111", "1101", "11110"};
+        bestOfTwelve("883 million millions are greater than 831", below, "111111101100");
+        String[] above = {"0000", "01000", "10000", "1000", "10101", "0000", "000", "00100"};
+        bestOfTwelve("950 are below it, 1055 and 1162 count alike", above, "100010001000");
+    }
+
+    private static void bestOfTwelve(String what, String[] traces, String want) {
+        LostLetters x = with(2);
+        for (String t : traces) {
+            Check.put(x, 0, t);
             x.trace(0);
         }
-        due("20 five are below the bound", x.best(3, 12), 12);
-        dueRow("20 five are below the bound", x, 3, "111111111111");
-        for (int k = 5; k < 8; k++) {
-            x.trace(0);
-        }
-        due("20 eight are above it", x.best(3, 12), 12);
-        dueRow("20 eight are above it", x, 3, "000111111111");
+        due("20 " + what, x.best(3, 12), 12);
+        dueRow("20 " + what, x, 3, want);
     }
 
     private static void line() {

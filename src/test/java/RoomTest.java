@@ -1,7 +1,7 @@
 import com.sun.management.ThreadMXBean;
 import java.lang.management.ManagementFactory;
 
-/** All calls of a run share one room: the dearest ones make next to nothing beyond what the object has from the start. */
+/** All calls of a run share one room: the dearest ones make next to nothing beyond the object itself. */
 public final class RoomTest {
     private static final long CALLS = 512;
     /** A code's table grows at most to some 15360 numbers, by doubling. */
@@ -16,7 +16,7 @@ public final class RoomTest {
         long before = threads.getThreadAllocatedBytes(self);
         play(x);
         long made = threads.getThreadAllocatedBytes(self) - before;
-        check.due("more than " + MOST_BYTES + " bytes in " + CALLS + " calls (" + made + ")", made > MOST_BYTES ? 1 : 0, 0);
+        check.due("more than " + MOST_BYTES + " bytes (" + made + ")", made > MOST_BYTES ? 1 : 0, 0);
         check.end();
     }
 
