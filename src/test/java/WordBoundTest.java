@@ -237,6 +237,7 @@ public final class WordBoundTest {
         d.due(23, "edit", 1, 3, 0, 23, 0).dueRow(1, ALL_FOUR.substring(0, 23));
         d.due(23, "edit", 1, 3, 0, 0, 0).dueRow(1, ALL_FOUR.substring(1));
         d.due(BAD, "edit", 1, 3, 0, 24, 0).dueRow(0, "3102").dueRow(3, ALL_FOUR);
+        d.due(3, "edit", 1, 0, 0, 0, MOST).dueRow(1, "102").due(3, "edit", 1, 0, 0, 3, LEAST).dueRow(1, "310");
     }
 
     private static void gained() {
