@@ -22,6 +22,7 @@ public final class TraceBoundTest {
         }
         sourcesOfEight();
         traceTooLong();
+        traceTooLongBehindAnother();
         noSource();
         bestFirstInOrder();
         bestIntoTraced();
@@ -181,6 +182,24 @@ public final class TraceBoundTest {
             d.due(1, "trace", 0).due(length == 12 ? 1 : 0, "sources", 12).due(length == 12 ? 12 : NONE, "best", 1, 12);
             d.due(0, "sources", 1).due(NONE, "best", 0, 1).due(BAD, "sources", 13).due(2, "trace", 11);
             d.due(length == 12 ? 1 : 0, "sources", 12);
+        }
+    }
+
+    /** What an earlier search has left behind must not be taken for a part of the long trace. */
+    private static void traceTooLongBehindAnother() {
+        for (int length = 13; length <= 24; length++) {
+            Sentence d = says("a TRACE of " + length + " has no SOURCE, whatever was a TRACE before").put(0, ZEROS);
+            for (int k = 1; k <= 8; k++) {
+                d.put(1, ZEROS.substring(12 + k % 2)).due(k, "trace", 1);
+            }
+            d.due(1, "sources", 12).due(8, "noTraces").put(0, ZEROS.substring(24 - length)).due(1, "trace", 0);
+            d.due(0, "sources", 12).due(NONE, "best", 1, 12).due(0, "sources", 1);
+            d.due(1, "noTraces").put(1, ZEROS.substring(13));
+            for (int k = 1; k <= 8; k++) {
+                d.due(k, "trace", 1);
+            }
+            d.due(13, "sources", 12).due(8, "noTraces").due(1, "trace", 0).due(0, "sources", 12);
+            d.due(NONE, "best", 1, 12).due(1, "noTraces").due(4096, "sources", 12);
         }
     }
 
