@@ -31,6 +31,12 @@ public final class LongTest {
         check.end();
     }
 
+    private static LostLetters with(int q) {
+        LostLetters x = new LostLetters();
+        check.due("letters(" + q + ")", x.letters(q), 0);
+        return x;
+    }
+
     private static String word(int q, int n) {
         StringBuilder text = new StringBuilder();
         for (int i = 0; i < n; i++) {
@@ -40,8 +46,7 @@ public final class LongTest {
     }
 
     private static void pair(int q, String t, String u) {
-        LostLetters x = new LostLetters();
-        x.letters(q);
+        LostLetters x = with(q);
         Check.put(x, 0, t);
         Check.put(x, 1, u);
         TreeSet<String> all = longest(t, u, new HashMap<>());
@@ -118,8 +123,7 @@ public final class LongTest {
     }
 
     private static void losing(int q, String t) {
-        LostLetters x = new LostLetters();
-        x.letters(q);
+        LostLetters x = with(q);
         Check.put(x, 0, t);
         TreeSet<String> all = new TreeSet<>(List.of(t));
         for (int n = 0; n <= 6; n++) {
@@ -135,8 +139,7 @@ public final class LongTest {
     }
 
     private static void gaining(int q) {
-        LostLetters x = new LostLetters();
-        x.letters(q);
+        LostLetters x = with(q);
         for (int length = 0; length <= 24; length++) {
             Check.put(x, 0, word(q, length));
             for (int n = 0; n <= 6; n++) {
@@ -153,39 +156,46 @@ public final class LongTest {
         return having(q, length - 1, more) + (more == 0 ? 0 : (q - 1) * having(q, length, more - 1));
     }
 
+    /** Runs of sixteen, so that the seed goes on from word to word and yet no object has more than 512 calls. */
     private static void lines(int q) {
-        LostLetters x = new LostLetters();
-        Model m = new Model();
-        x.letters(q);
-        m.letters(q);
-        for (int k = 0; k < 400; k++) {
-            String t = word(q, 15 + random.nextInt(10));
-            int losses = random.nextInt(30), gains = random.nextInt(30), turns = random.nextInt(5);
-            x.line(losses, gains, turns);
-            m.line(losses, gains, turns);
-            Check.put(x, 0, t);
-            m.word(0, t.length(), Check.bits(t));
-            check.due(t + " sent", x.send(1, 0), m.send(1, 0));
-            check.due(t + " sent", Check.read(x, 1), m.register(1));
+        for (int run = 0; run < 25; run++) {
+            LostLetters x = with(q);
+            Model m = new Model();
+            m.letters(q);
+            long seed = random.nextLong() >>> 1;
+            check.due("seed(" + seed + ")", x.seed(seed), m.seed(seed));
+            for (int k = 0; k < 16; k++) {
+                sent(x, m, word(q, 15 + random.nextInt(10)));
+            }
         }
     }
 
+    private static void sent(LostLetters x, Model m, String t) {
+        int losses = random.nextInt(30), gains = random.nextInt(30), turns = random.nextInt(5);
+        check.due("line", x.line(losses, gains, turns), m.line(losses, gains, turns));
+        Check.put(x, 0, t);
+        m.word(0, t.length(), Check.bits(t));
+        check.due(t + " sent", x.send(1, 0), m.send(1, 0));
+        check.due(t + " sent", Check.read(x, 1), m.register(1));
+    }
+
     private static void codes(int q, int n, int m) {
-        LostLetters x = new LostLetters();
-        x.letters(q);
         int a = random.nextInt(m), b = random.nextInt(q);
         List<String> all = codeWords(q, n, m, a, b);
-        String call = "code(" + n + ", " + m + ", " + a + ", " + b + ")";
-        check.due(call, x.code(n, m, a, b), all.size());
-        check.due(call + " behind the last", x.listed(0, all.size()), -4);
-        for (int k = 0; k < 40 && !all.isEmpty(); k++) {
-            int i = k == 0 ? 0 : k == 1 ? all.size() - 1 : random.nextInt(all.size());
-            check.due(call + " listed " + i, x.listed(0, i), n);
-            check.due(call + " listed " + i, Check.read(x, 0), all.get(i));
-        }
         TreeSet<String> known = new TreeSet<>(all);
-        for (int k = 0; k < 40; k++) {
-            mended(x, q, known, word(q, n - 1 + random.nextInt(3)));
+        String call = "code(" + n + ", " + m + ", " + a + ", " + b + ")";
+        for (int round = 0; round < 4; round++) {
+            LostLetters x = with(q);
+            check.due(call, x.code(n, m, a, b), all.size());
+            check.due(call + " behind the last", x.listed(0, all.size()), -4);
+            for (int k = 0; k < 10 && !all.isEmpty(); k++) {
+                int i = k == 0 ? 0 : k == 1 ? all.size() - 1 : random.nextInt(all.size());
+                check.due(call + " listed " + i, x.listed(0, i), n);
+                check.due(call + " listed " + i, Check.read(x, 0), all.get(i));
+            }
+            for (int k = 0; k < 10; k++) {
+                mended(x, q, known, word(q, n - 1 + random.nextInt(3)));
+            }
         }
     }
 

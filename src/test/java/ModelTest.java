@@ -1,9 +1,15 @@
 import java.util.Random;
 
-/** Runs of calls drawn from fixed seeds, on the class and on the model; after each call all registers are compared. */
+/**
+ * Runs of calls drawn from fixed seeds, on the class and on the model: each answer is compared, and all registers at
+ * the end of a run. Reading them takes calls too, so runs are of many lengths: a short one shows what a long one
+ * would write over.
+ */
 public final class ModelTest {
-    private static final int RUNS = 400;
-    private static final int CALLS = 120;
+    private static final int RUNS = 1600;
+    private static final int MOST_CALLS = 512;
+    /** What the registers and counts take at the end, and the last drawn call, are kept free. */
+    private static final int MOST_DRAWN = 300;
     private static final int LONGEST = 9;
     private static final Check check = new Check("ModelTest");
 
@@ -12,6 +18,7 @@ public final class ModelTest {
     private final LostLetters x = new LostLetters();
     private final Model m = new Model();
     private int q = 2;
+    private int made = 0;
 
     private ModelTest(int run) {
         this.run = run;
@@ -29,10 +36,14 @@ public final class ModelTest {
         if (run % 4 != 0) {
             letters(2 + run % 3);
         }
-        for (int c = 0; c < CALLS && !check.hasWrong(); c++) {
+        int drawn = 1 + random.nextInt(MOST_DRAWN);
+        for (int c = 0; c < drawn && made < MOST_DRAWN && !check.hasWrong(); c++) {
             call();
             keepShort();
-            compare();
+        }
+        compare();
+        if (made > MOST_CALLS) {
+            throw new IllegalStateException("run " + run + " needs more than " + MOST_CALLS + " calls");
         }
     }
 
@@ -47,6 +58,7 @@ public final class ModelTest {
     }
 
     private void due(String call, long got, long want) {
+        made++;
         check.due("run " + run + ": " + call, got, want);
     }
 
@@ -168,19 +180,24 @@ public final class ModelTest {
     private void keepShort() {
         for (int s = 0; s < 12; s++) {
             if (m.register(s).length() > LONGEST + 3) {
-                check.due("run " + run + ": register " + s, Check.read(x, s), m.register(s));
-                x.word(s, 0, 0);
-                m.word(s, 0, 0);
+                read(s);
+                due("word(" + s + ", 0, 0)", x.word(s, 0, 0), m.word(s, 0, 0));
             }
         }
     }
 
     private void compare() {
         for (int s = 0; s < 12; s++) {
-            check.due("run " + run + ": register " + s, Check.read(x, s), m.register(s));
+            read(s);
         }
         for (int what = 0; what < 4; what++) {
             due("count(" + what + ")", x.count(what), m.count(what));
         }
+    }
+
+    private void read(int s) {
+        String letters = Check.read(x, s);
+        made += letters.length() + 1;
+        check.due("run " + run + ": register " + s, letters, m.register(s));
     }
 }

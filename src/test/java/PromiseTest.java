@@ -270,8 +270,8 @@ public final class PromiseTest {
 
     private static void allWordsAreOfOneCode() {
         for (int q = 2; q <= 4; q++) {
-            LostLetters x = with(q);
             for (int m = 1; m <= 64; m += 9) {
+                LostLetters x = with(q);
                 long all = 0;
                 for (int a = 0; a < m; a++) {
                     for (int b = 0; b < (q == 2 ? 1 : q); b++) {
@@ -416,24 +416,30 @@ public final class PromiseTest {
 
     /** What these codes are for: with m n + 1 (n for three or four letters) any one loss or gain is mended. */
     private static void oneLossOrGainIsMended() {
+        int n = 6;
         for (int q = 2; q <= 4; q++) {
-            LostLetters x = with(q);
-            int n = 6;
-            int size = x.code(n, q == 2 ? n + 1 : n, 2, 1);
+            int m = q == 2 ? n + 1 : n;
+            int size = with(q).code(n, m, 2, 1);
             for (int w = 0; w < size; w++) {
+                LostLetters x = with(q);
+                x.code(n, m, 2, 1);
                 x.listed(0, w);
-                String sent = Check.read(x, 0);
-                for (int i = 0; i <= n; i++) {
-                    if (i < n) {
-                        x.edit(1, 0, 0, i, 0);
-                        due("10 " + sent + " without " + i, x.mend(2, 1), 1);
-                        dueRow("10 " + sent + " without " + i, x, 2, sent);
-                    }
-                    x.edit(1, 0, 1, i, q - 1);
-                    due("10 " + sent + " and one at " + i, x.mend(2, 1), 1);
-                    dueRow("10 " + sent + " and one at " + i, x, 2, sent);
-                }
+                anyOneIsMended(x, q);
             }
+        }
+    }
+
+    private static void anyOneIsMended(LostLetters x, int q) {
+        String sent = Check.read(x, 0);
+        for (int i = 0; i <= sent.length(); i++) {
+            if (i < sent.length()) {
+                x.edit(1, 0, 0, i, 0);
+                due("10 " + sent + " without " + i, x.mend(2, 1), 1);
+                dueRow("10 " + sent + " without " + i, x, 2, sent);
+            }
+            x.edit(1, 0, 1, i, q - 1);
+            due("10 " + sent + " and one at " + i, x.mend(2, 1), 1);
+            dueRow("10 " + sent + " and one at " + i, x, 2, sent);
         }
     }
 

@@ -3,7 +3,8 @@ import java.lang.management.ManagementFactory;
 
 /** All calls of a run share one room: the dearest ones make next to nothing beyond the object itself. */
 public final class RoomTest {
-    private static final long CALLS = 512;
+    /** With the three calls ahead of them some 500: an object is used for at most 512. */
+    private static final int ROUNDS = 31;
     /** A code's table grows at most to some 15360 numbers, by doubling. */
     private static final long MOST_BYTES = 200_000;
     private static final Check check = new Check("RoomTest");
@@ -24,7 +25,7 @@ public final class RoomTest {
         x.letters(4);
         x.word(0, 24, 0x1b1b1b1b1b1bL);
         x.word(1, 24, 0xe4e4e4e4e4e4L);
-        for (int i = 0; i < CALLS / 16; i++) {
+        for (int i = 0; i < ROUNDS; i++) {
             x.code(1 + i % 16, 1 + 2 * i, 0, 0);
             x.code(16, 64, i, 1);
             x.listed(2, 100000 + i);
