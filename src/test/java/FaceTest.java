@@ -15,12 +15,14 @@ public final class FaceTest {
     };
     private static final Check check = new Check("FaceTest");
 
-    public static void main(String[] args) {
+    public static void main(String[] args) throws IllegalAccessException {
         TreeSet<String> names = new TreeSet<>();
         TreeSet<String> faces = new TreeSet<>();
         for (Method method : LostLetters.class.getDeclaredMethods()) {
             if (Modifier.isPublic(method.getModifiers())) {
                 faces.add(face(method));
+                check.due("modifiers of " + method.getName(), method.getModifiers(), Modifier.PUBLIC);
+                check.due("throws of " + method.getName(), method.getExceptionTypes().length, 0);
                 names.add(method.getName());
             } else {
                 isPrivate(method.getName(), method.getModifiers());
@@ -28,12 +30,16 @@ public final class FaceTest {
         }
         check.due("methods", faces.toString(), new TreeSet<>(Arrays.asList(METHODS)).toString());
         fields();
-        check.due("constructors", LostLetters.class.getDeclaredConstructors().length, 1);
-        check.due("public constructors", LostLetters.class.getConstructors().length, 1);
+        check.due("constructors", Arrays.toString(LostLetters.class.getDeclaredConstructors()),
+                "[public LostLetters()]");
         check.due("public final class", LostLetters.class.getModifiers(), Modifier.PUBLIC | Modifier.FINAL);
+        check.due("of no other kind", LostLetters.class.getGenericSuperclass() + " "
+                + LostLetters.class.getInterfaces().length, "class java.lang.Object 0");
         noNameTwice(LostLetters.class, names);
         for (Class<?> inside : LostLetters.class.getDeclaredClasses()) {
             check.due("static " + inside, Modifier.isStatic(inside.getModifiers()) ? 1 : 0, 1);
+            check.due("seen from outside: " + inside,
+                    inside.getModifiers() & (Modifier.PUBLIC | Modifier.PROTECTED), 0);
             noNameTwice(inside, names);
         }
         check.end();
@@ -53,17 +59,18 @@ public final class FaceTest {
         check.due("private " + name, Modifier.isPrivate(modifiers) ? 1 : 0, 1);
     }
 
-    private static void fields() {
+    private static void fields() throws IllegalAccessException {
         TreeSet<String> constants = new TreeSet<>();
         for (Field field : LostLetters.class.getDeclaredFields()) {
             if (Modifier.isPublic(field.getModifiers())) {
-                constants.add(field.getType() + " " + field.getName());
+                constants.add(field.getType() + " " + field.getName() + " = " + field.get(null));
                 check.due(field.getName(), field.getModifiers(), Modifier.PUBLIC | Modifier.STATIC | Modifier.FINAL);
             } else {
                 isPrivate(field.getName(), field.getModifiers());
             }
         }
-        check.due("constants", constants.toString(), "[int BAD, int FAR, int FULL, int NO, int NONE]");
+        check.due("constants", constants.toString(),
+                "[int BAD = -1, int FAR = -5, int FULL = -3, int NO = -2, int NONE = -4]");
     }
 
     private static void noNameTwice(Class<?> where, TreeSet<String> names) {
