@@ -5,23 +5,57 @@ import java.lang.management.ManagementFactory;
 public final class RoomTest {
     /** With the three calls ahead of them some 500: an object is used for at most 512. */
     private static final int ROUNDS = 31;
-    /** A code's table grows at most to some 15360 numbers, by doubling. */
-    private static final long MOST_BYTES = 200_000;
+    /** A code's table grows at most to some 15360 numbers, by doubling: twice that in all, by four bytes. */
+    private static final long MOST_BYTES = 160_000;
+    /** Some 3000 numbers, half of them longs, and some forty objects. */
+    private static final long MOST_OF_A_SMALL_ONE = 20_000;
+    private static final ThreadMXBean THREADS = (ThreadMXBean) ManagementFactory.getThreadMXBean();
     private static final Check check = new Check("RoomTest");
 
     public static void main(String[] args) {
-        ThreadMXBean threads = (ThreadMXBean) ManagementFactory.getThreadMXBean();
-        long self = Thread.currentThread().getId();
-        play(new LostLetters());
+        allCalls(new LostLetters());
+        greaterAndGreaterCodes(new LostLetters());
+        small();
         LostLetters x = new LostLetters();
-        long before = threads.getThreadAllocatedBytes(self);
-        play(x);
-        long made = threads.getThreadAllocatedBytes(self) - before;
-        check.due("more than " + MOST_BYTES + " bytes (" + made + ")", made > MOST_BYTES ? 1 : 0, 0);
+        LostLetters y = new LostLetters();
+        long before = made();
+        allCalls(x);
+        atMost("all calls", made() - before, MOST_BYTES);
+        before = made();
+        greaterAndGreaterCodes(y);
+        atMost("greater and greater codes", made() - before, MOST_BYTES);
+        before = made();
+        small();
+        atMost("a new object with a small code", made() - before, MOST_OF_A_SMALL_ONE);
         check.end();
     }
 
-    private static void play(LostLetters x) {
+    private static long made() {
+        return THREADS.getThreadAllocatedBytes(Thread.currentThread().getId());
+    }
+
+    private static void atMost(String what, long bytes, long most) {
+        check.due(what + ": more than " + most + " bytes (" + bytes + ")", bytes > most ? 1 : 0, 0);
+    }
+
+    private static void small() {
+        LostLetters x = new LostLetters();
+        x.letters(4);
+        x.code(4, 4, 1, 1);
+    }
+
+    /** Each needs a little more than the one before it, up to the greatest. */
+    private static void greaterAndGreaterCodes(LostLetters x) {
+        x.letters(4);
+        for (int n = 2; n <= 16; n++) {
+            for (int m = n * 4 - 6; m < n * 4; m++) {
+                x.code(n, m, 0, 0);
+            }
+        }
+        x.code(16, 64, 0, 0);
+    }
+
+    private static void allCalls(LostLetters x) {
         x.letters(4);
         x.word(0, 24, 0x1b1b1b1b1b1bL);
         x.word(1, 24, 0xe4e4e4e4e4e4L);
